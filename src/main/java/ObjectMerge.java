@@ -409,8 +409,11 @@ public final class ObjectMerge {
             if (a == b) {
                 return true;
             }
-            for (int matter = 0; matter < MATTERS; matter++) {
-                if (differ(a, b, matter)) {
+            if (a == null || b == null) {
+                return false;
+            }
+            for (int f = 0; f < FIELDS; f++) {
+                if (a.values[f] != b.values[f]) {
                     return false;
                 }
             }
@@ -419,9 +422,9 @@ public final class ObjectMerge {
 
         static boolean differ(Row a, Row b, int matter) {
             if (a == null || b == null) {
-                return matter == WHOLE && (a != null || b != null);
+                return matter == WHOLE && a != b;
             }
-            return a.value(matter) != b.value(matter);
+            return matter >= 0 && matter < FIELDS && a.values[matter] != b.values[matter];
         }
     }
 

@@ -12,6 +12,14 @@ final class Checks {
         this.test = test;
     }
 
+    static ObjectMerge withObjects(int n) {
+        ObjectMerge x = new ObjectMerge();
+        for (int i = 0; i < n; i++) {
+            x.object(i % 10);
+        }
+        return x;
+    }
+
     void due(String what, long got, long want) {
         asked++;
         if (got != want) {

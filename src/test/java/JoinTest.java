@@ -17,14 +17,6 @@ public final class JoinTest {
         c.end();
     }
 
-    private static ObjectMerge withObjects(int n) {
-        ObjectMerge x = new ObjectMerge();
-        for (int i = 0; i < n; i++) {
-            x.object(0);
-        }
-        return x;
-    }
-
     private static void tells(ObjectMerge x, int k, int object, int field, int side) {
         c.due("conflict(" + k + ", 0)", x.conflict(k, 0), object);
         c.due("conflict(" + k + ", 1)", x.conflict(k, 1), field);
@@ -32,7 +24,7 @@ public final class JoinTest {
     }
 
     private static void refusals() {
-        ObjectMerge x = withObjects(1);
+        ObjectMerge x = Checks.withObjects(1);
         c.refused("join of no session", Checks.INDEX, () -> x.join(0));
         c.refused("conflict before a join", Checks.INDEX, () -> x.conflict(0, 0));
         c.refused("settle before a join", Checks.INDEX, () -> x.settle(0, 0));
@@ -46,7 +38,7 @@ public final class JoinTest {
     }
 
     private static void unchanged() {
-        ObjectMerge x = withObjects(1);
+        ObjectMerge x = Checks.withObjects(1);
         int s = x.session();
         int t = x.session();
         int u = x.session();
@@ -70,7 +62,7 @@ public final class JoinTest {
     }
 
     private static void fields() {
-        ObjectMerge x = withObjects(3);
+        ObjectMerge x = Checks.withObjects(3);
         int s = x.session();
         int t = x.session();
         x.set(s, 0, 0, 1);
@@ -110,7 +102,7 @@ public final class JoinTest {
     }
 
     private static void sides() {
-        ObjectMerge x = withObjects(1);
+        ObjectMerge x = Checks.withObjects(1);
         int s = x.session();
         int t = x.session();
         x.set(s, 0, 0, 1);
@@ -134,7 +126,7 @@ public final class JoinTest {
     }
 
     private static void settledPartly() {
-        ObjectMerge x = withObjects(1);
+        ObjectMerge x = Checks.withObjects(1);
         int s = x.session();
         int t = x.session();
         for (int f = 0; f < 6; f++) {
@@ -152,7 +144,7 @@ public final class JoinTest {
     }
 
     private static void sessionDropped() {
-        ObjectMerge x = withObjects(3);
+        ObjectMerge x = Checks.withObjects(3);
         int s = x.session();
         int t = x.session();
         int u = x.session();
@@ -171,7 +163,7 @@ public final class JoinTest {
         c.refused("object 2", Checks.STATE, () -> x.at(2, 0));
         c.due("the last session joins", x.join(u), 0);
 
-        ObjectMerge y = withObjects(1);
+        ObjectMerge y = Checks.withObjects(1);
         int a = y.session();
         int b = y.session();
         y.set(a, 0, 4, 9);
@@ -182,7 +174,7 @@ public final class JoinTest {
         c.due("side 0: it stays", y.join(b), 0);
         c.due("as the head has it", y.at(0, 4), 9);
 
-        ObjectMerge z = withObjects(1);
+        ObjectMerge z = Checks.withObjects(1);
         int p = z.session();
         int q = z.session();
         z.set(p, 0, 4, 9);
@@ -196,7 +188,7 @@ public final class JoinTest {
     }
 
     private static void headDropped() {
-        ObjectMerge x = withObjects(2);
+        ObjectMerge x = Checks.withObjects(2);
         int s = x.session();
         int t = x.session();
         int u = x.session();
@@ -225,7 +217,7 @@ public final class JoinTest {
     }
 
     private static void latestJoin() {
-        ObjectMerge x = withObjects(2);
+        ObjectMerge x = Checks.withObjects(2);
         int s = x.session();
         int t = x.session();
         int u = x.session();
@@ -256,7 +248,7 @@ public final class JoinTest {
     }
 
     private static void settledStays() {
-        ObjectMerge x = withObjects(1);
+        ObjectMerge x = Checks.withObjects(1);
         int s = x.session();
         int t = x.session();
         x.set(s, 0, 0, 1);
@@ -279,7 +271,7 @@ public final class JoinTest {
     }
 
     private static void mostVersions() {
-        ObjectMerge x = withObjects(1);
+        ObjectMerge x = Checks.withObjects(1);
         int s = x.session();
         int t = x.session();
         x.set(s, 0, 0, 1);

@@ -16,10 +16,7 @@ public final class LocksTest {
     }
 
     private static ObjectMerge withSessions(int objects, int n) {
-        ObjectMerge x = new ObjectMerge();
-        for (int i = 0; i < objects; i++) {
-            x.object(0);
-        }
+        ObjectMerge x = Checks.withObjects(objects);
         for (int i = 0; i < n; i++) {
             x.session();
         }

@@ -51,6 +51,9 @@ public final class ObjectsTest {
         c.due("no 41st version", x.object(0), -1);
         c.due("version 39 still", x.version(), 39);
         c.refused("the kind is looked at first", Checks.ARGUMENT, () -> x.object(10));
+        c.due("version 39 has object 38", x.difference(38, 39, 0), 8 * 38 + 6);
+        c.refused("no version 40", Checks.INDEX, () -> x.difference(40, 39, 0));
+        c.refused("no branch of version 40", Checks.INDEX, () -> x.branch(40));
         c.refused("no number was spent", Checks.INDEX, () -> x.at(39, 0));
     }
 

@@ -11,14 +11,6 @@ public final class RulesTest {
         c.end();
     }
 
-    private static ObjectMerge withObjects(int n) {
-        ObjectMerge x = new ObjectMerge();
-        for (int i = 0; i < n; i++) {
-            x.object(0);
-        }
-        return x;
-    }
-
     private static void place(ObjectMerge x, int object, long px, long py) {
         int s = x.session();
         x.set(s, object, 0, px);
@@ -27,7 +19,7 @@ public final class RulesTest {
     }
 
     private static void refusals() {
-        ObjectMerge x = withObjects(2);
+        ObjectMerge x = Checks.withObjects(2);
         c.refused("object 2", Checks.INDEX, () -> x.apart(2, 0, 1));
         c.refused("object 2 as the other", Checks.INDEX, () -> x.apart(0, 2, 1));
         c.refused("object -1", Checks.INDEX, () -> x.apart(-1, 0, 1));
@@ -53,7 +45,7 @@ public final class RulesTest {
     }
 
     private static void mostRules() {
-        ObjectMerge x = withObjects(2);
+        ObjectMerge x = Checks.withObjects(2);
         for (int i = 0; i < 20; i++) {
             c.due("one object is no rule " + i, x.apart(0, 0, 1), false);
             c.due("rule " + i, x.apart(i % 2, 1 - i % 2, 1 + i), true);
@@ -66,7 +58,7 @@ public final class RulesTest {
     }
 
     private static void distances() {
-        ObjectMerge x = withObjects(2);
+        ObjectMerge x = Checks.withObjects(2);
         x.apart(0, 1, 7);
         place(x, 0, 3, 0);
         c.due("3 and 0", x.violation(0, 0), 0);
@@ -85,7 +77,7 @@ public final class RulesTest {
     }
 
     private static void far() {
-        ObjectMerge x = withObjects(2);
+        ObjectMerge x = Checks.withObjects(2);
         x.apart(0, 1, 1000000000L);
         place(x, 0, Long.MIN_VALUE, 0);
         place(x, 1, Long.MAX_VALUE, 0);
@@ -105,7 +97,7 @@ public final class RulesTest {
     }
 
     private static void order() {
-        ObjectMerge x = withObjects(3);
+        ObjectMerge x = Checks.withObjects(3);
         int s = x.session();
         int made = x.make(s, 0);
         c.due("a made one, not joined", x.apart(made, 0, 5), true);

@@ -14,16 +14,8 @@ public final class SessionsTest {
         c.end();
     }
 
-    private static ObjectMerge withObjects(int n) {
-        ObjectMerge x = new ObjectMerge();
-        for (int i = 0; i < n; i++) {
-            x.object(i % 10);
-        }
-        return x;
-    }
-
     private static void mostSessions() {
-        ObjectMerge x = withObjects(1);
+        ObjectMerge x = Checks.withObjects(1);
         for (int i = 0; i < 20; i++) {
             c.due("session " + i, i % 2 == 0 ? x.session() : x.branch(0), i);
         }
@@ -38,7 +30,7 @@ public final class SessionsTest {
     }
 
     private static void set() {
-        ObjectMerge x = withObjects(2);
+        ObjectMerge x = Checks.withObjects(2);
         int s = x.session();
         int t = x.session();
         c.due("set", x.set(s, 0, 0, 4), true);
@@ -69,7 +61,7 @@ public final class SessionsTest {
     }
 
     private static void drop() {
-        ObjectMerge x = withObjects(2);
+        ObjectMerge x = Checks.withObjects(2);
         int s = x.session();
         int t = x.session();
         c.due("drop", x.drop(s, 0), true);
@@ -95,7 +87,7 @@ public final class SessionsTest {
     }
 
     private static void make() {
-        ObjectMerge x = withObjects(1);
+        ObjectMerge x = Checks.withObjects(1);
         int s = x.session();
         int t = x.session();
         c.due("make", x.make(s, 0), 1);
@@ -125,7 +117,7 @@ public final class SessionsTest {
     }
 
     private static void undo() {
-        ObjectMerge x = withObjects(1);
+        ObjectMerge x = Checks.withObjects(1);
         int s = x.session();
         int t = x.session();
         c.due("nothing to undo", x.undo(s), false);
@@ -160,7 +152,7 @@ public final class SessionsTest {
     }
 
     private static void undoLatestForty() {
-        ObjectMerge x = withObjects(1);
+        ObjectMerge x = Checks.withObjects(1);
         int s = x.session();
         for (int v = 1; v <= 41; v++) {
             x.set(s, 0, 3, v);
@@ -182,7 +174,7 @@ public final class SessionsTest {
     }
 
     private static void undoBehindUndo() {
-        ObjectMerge x = withObjects(1);
+        ObjectMerge x = Checks.withObjects(1);
         int s = x.session();
         for (int v = 1; v <= 45; v++) {
             x.set(s, 0, 3, v);
@@ -202,7 +194,7 @@ public final class SessionsTest {
     }
 
     private static void branch() {
-        ObjectMerge x = withObjects(2);
+        ObjectMerge x = Checks.withObjects(2);
         int s = x.session();
         x.set(s, 0, 4, 7);
         x.join(s);
