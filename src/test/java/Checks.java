@@ -1,3 +1,5 @@
+import java.util.function.IntConsumer;
+
 /** Counts and tells the answers of one test that are not as due; end() closes it. */
 final class Checks {
     static final Class<? extends RuntimeException> INDEX = IndexOutOfBoundsException.class;
@@ -45,6 +47,21 @@ final class Checks {
                 tell(what + " threw " + e.getClass().getSimpleName() + ", due is " + want.getSimpleName());
             }
         }
+    }
+
+    /** The numbers on both sides of 0 .. n - 1, and both ends of int. */
+    void refusedOutside(String what, int n, Class<? extends RuntimeException> want, IntConsumer call) {
+        for (int i : new int[] {-1, n, Integer.MIN_VALUE, Integer.MAX_VALUE}) {
+            refused(what + " " + i, want, () -> call.accept(i));
+        }
+    }
+
+    int asked() {
+        return asked;
+    }
+
+    int wrong() {
+        return wrong;
     }
 
     void tell(String fault) {

@@ -35,8 +35,10 @@ public final class FaceTest {
         "int mark(int int) IndexOutOfBoundsException IllegalArgumentException",
     };
 
+    /** Rules 2, 4, 5, 6 and 10; texts and comments have none of these either. */
     private static final String[] FORBIDDEN = {
-        "import ", "package ", "->", "::", "catch", "finally", "synchronized", "assert ", "static {", "Exact(",
+        "package ", "->", "::", "finally", "synchronized", "assert ", "static {", "Exact(", "getMessage", "Throwable",
+        "NullPointerException", "ArrayIndexOutOfBounds", "ClassCastException", "NegativeArraySize", "ArrayStoreException",
     };
 
     public static void main(String[] args) throws IOException {
