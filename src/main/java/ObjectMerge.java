@@ -545,14 +545,15 @@ public final class ObjectMerge {
     private static final class Changes {
         private final int[] objects = new int[MOST_CHANGES];
         private final Row[] rows = new Row[MOST_CHANGES];
-        /** Where the next change goes, always 0 .. MOST_CHANGES - 1. */
-        private int next;
+        /** Those that are not undone, also the ones that can't be any more. */
+        private int made;
         private int count;
 
         void keep(int object, Row before) {
-            objects[next] = object;
-            rows[next] = before;
-            next = next + 1 >= MOST_CHANGES ? 0 : next + 1;
+            int place = place();
+            objects[place] = object;
+            rows[place] = before;
+            made++;
             count = Math.min(count + 1, MOST_CHANGES);
         }
 
@@ -562,16 +563,21 @@ public final class ObjectMerge {
                 return false;
             }
             count--;
-            next = next == 0 ? MOST_CHANGES - 1 : next - 1;
+            made--;
             return true;
         }
 
         int changedObject() {
-            return objects[next];
+            return objects[place()];
         }
 
         Row rowBefore() {
-            return rows[next];
+            return rows[place()];
+        }
+
+        /** Where the next change goes; floorMod keeps it in the rows, however many were made. */
+        private int place() {
+            return Math.floorMod(made, MOST_CHANGES);
         }
     }
 

@@ -11,6 +11,7 @@ final class Document {
     static final int PROMISES = 19;
 
     private final String[] sections = new String[PROMISES + 1];
+    private final String[] calls = new String[PROMISES + 1];
 
     Document() throws IOException {
         String text = Files.readString(Path.of("../shared/DOC.md"));
@@ -22,6 +23,7 @@ final class Document {
             } else if (title.matches("Promise [0-9]+: .*")) {
                 int promise = Integer.parseInt(title.substring(8, title.indexOf(':')));
                 sections[promise] = plain(part.substring(end));
+                calls[promise] = part.substring(end).strip().replaceFirst("(?s)^`([^`]*?)( throws [^`]*)?`.*", "$1");
             }
         }
     }
@@ -33,6 +35,11 @@ final class Document {
 
     private String section(int number) {
         return sections[number] == null ? "" : sections[number];
+    }
+
+    /** As the document writes it, without what it throws. */
+    String call(int promise) {
+        return calls[promise] == null ? "" : calls[promise];
     }
 
     boolean says(int promise, String words) {
